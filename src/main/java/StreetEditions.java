@@ -352,12 +352,12 @@ public final class StreetEditions {
     }
 
     private static boolean isNewer(int one, int other) {
-        int ahead = Math.floorMod(one - other, EDITIONS);
+        int ahead = (one - other + EDITIONS) % EDITIONS;
         return ahead >= 1 && ahead <= NEWER_AT_MOST;
     }
 
     private static boolean contains(int list, int street) {
-        return (list & 1 << street) != 0;
+        return (list & (1 << street)) != 0;
     }
 
     /** Everything that undo brings back. */
@@ -646,7 +646,7 @@ public final class StreetEditions {
         }
     }
 
-    /** A follower; without a list, the list here is empty and the edition is 0. */
+    /** A follower; without a list, the list here is empty and the edition means nothing. */
     private static final class Follower {
         private boolean hasList;
         private int list;
@@ -670,7 +670,6 @@ public final class StreetEditions {
         void loseList() {
             hasList = false;
             list = 0;
-            edition = 0;
         }
 
         int editionOrNone() {

@@ -10,6 +10,8 @@ public final class FollowersTest {
         promise16Nothing();
         promise16Differences();
         promise16DifferencesFromTheMiddle();
+        promise16DifferencesAfterOthersWereDropped();
+        promise16SixDifferences();
         promise16DearDifferences();
         promise16NoDifferenceKept();
         promise16Refused();
@@ -75,6 +77,33 @@ public final class FollowersTest {
         Due.is("the number went round", x.edition(), 2);
         refreshes(x, 2, 1, 2, 6 + 2 + 3);
         Due.is("right", x.isRight(2), true);
+    }
+
+    private static void promise16DifferencesAfterOthersWereDropped() {
+        StreetEditions x = new StreetEditions();
+        Do.texts(x, "+1;+2;+3;+4;+5;+6;+7;+8;+9;p;-1;p;r0;r1;-2;+10;p");
+        Do.texts(x, "-3;+11;p;-4;+2;p");
+        Due.is("two were dropped", x.from(0), 2);
+        refreshes(x, 0, 1, 5, 9 + 9);
+        Due.is("right", x.isRight(0), true);
+        x.setKeep(2);
+        refreshes(x, 1, 2, 5, 9 + 9);
+        Do.texts(x, "-5;-6;p");
+        refreshes(x, 1, 1, 6, 18 + 3);
+        Due.is("right after setKeep", x.isRight(1), true);
+    }
+
+    private static void promise16SixDifferences() {
+        StreetEditions x = new StreetEditions();
+        x.setKeep(6);
+        Do.texts(x, "n12;+0;+1;+2;+3;+4;+5;+6;+7;+8;+9;+10;+11;p;r0;r1");
+        Do.texts(x, "-0;p;+0;p;-1;p;-2;p;+1;p;+29;p");
+        Due.is("all six lead away from the follower's edition", x.from(0), 13);
+        refreshes(x, 0, 1, 3, 13 + 12);
+        Due.is("right", x.isRight(0), true);
+        Do.texts(x, "+28;p");
+        refreshes(x, 1, 2, 4, 13 + 14);
+        Due.is("right with the whole list", x.isRight(1), true);
     }
 
     private static void promise16DearDifferences() {
@@ -196,7 +225,9 @@ public final class FollowersTest {
         Due.is("throwAway(0), asleep", x.throwAway(0), 2);
         Due.is("editionOf(0)", x.editionOf(0), StreetEditions.NONE);
         Due.is("streets(0)", x.streets(0), StreetEditions.NONE);
-        Due.is("has(0, 1)", x.has(0, 1), false);
+        for (int s = 0; s < 30; s++) {
+            Due.is("has(0, " + s + ")", x.has(0, s), false);
+        }
         Due.is("wrong(0)", x.wrong(0), StreetEditions.NONE);
         Due.is("isRight(0)", x.isRight(0), false);
         Due.is("asleep and with a notice as before", x.attention(0), 3);

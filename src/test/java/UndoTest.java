@@ -7,9 +7,11 @@ public final class UndoTest {
         promise35And36EachUndoableCall();
         promise35And36SixStates();
         promise35BringsBackWhatCannotBeSeen();
+        promise35BringsBackTheDifferences();
         promise35Throws();
         promise36CallsThatSaveNothing();
         promise37Digest();
+        promise37DigestAfterDifferences();
         promise37DigestOfANewObject();
         Due.end("UndoTest");
     }
@@ -95,6 +97,24 @@ public final class UndoTest {
         Due.is("the differences are back, and apply", x.isRight(0), true);
     }
 
+    private static void promise35BringsBackTheDifferences() {
+        StreetEditions x = new StreetEditions();
+        Do.texts(x, "+1;+2;+3;+4;+5;+6;+7;p;r0;r1;-1;+8;p;-2;+9;p");
+        x.setKeep(1);
+        Do.texts(x, "+10;+11;p;-3;-4;p");
+        x.undo();
+        x.undo();
+        Due.is("kept", x.kept(), 3);
+        Due.is("refresh with the differences from before", x.refresh(0), 1);
+        Due.is("right", x.isRight(0), true);
+        x.renumber(7);
+        Do.texts(x, "+20;p;-20;p");
+        x.undo();
+        x.undo();
+        Due.is("refresh with those from before renumber", x.refresh(1), 1);
+        Due.is("right then", x.isRight(1), true);
+    }
+
     private static void promise35Throws() {
         StreetEditions x = new StreetEditions();
         Due.refuses(x, NOT_NOW, "undo of nothing", x::undo);
@@ -126,6 +146,12 @@ public final class UndoTest {
         x.undo();
         Due.is("digest is not of the saved states", x.digest(), before);
         Due.is("savedStates", x.savedStates(), saved);
+    }
+
+    private static void promise37DigestAfterDifferences() {
+        StreetEditions x = busy();
+        Due.is("refresh with differences", x.refresh(0), 1);
+        Due.is("digest with costs that are not those of whole lists", x.digest(), Seen.digest(x));
     }
 
     private static void promise37DigestOfANewObject() {
