@@ -19,7 +19,19 @@ final class Due {
         }
     }
 
-    static void refuses(StreetEditions x, Class<? extends RuntimeException> due, String what, Call call) {
+    static void noSuch(StreetEditions x, String what, Call call) {
+        refuses(x, IndexOutOfBoundsException.class, what, call);
+    }
+
+    static void notNow(StreetEditions x, String what, Call call) {
+        refuses(x, IllegalStateException.class, what, call);
+    }
+
+    static void bad(StreetEditions x, String what, Call call) {
+        refuses(x, IllegalArgumentException.class, what, call);
+    }
+
+    private static void refuses(StreetEditions x, Class<? extends RuntimeException> due, String what, Call call) {
         String before = Seen.all(x);
         is(what, outcome(call), due.getSimpleName());
         is("everything after " + what, Seen.all(x), before);

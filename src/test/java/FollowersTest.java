@@ -1,8 +1,6 @@
 /** Promises 16 to 26: the followers. */
 public final class FollowersTest {
 
-    private static final Class<IndexOutOfBoundsException> NO_SUCH = IndexOutOfBoundsException.class;
-    private static final Class<IllegalStateException> NOT_NOW = IllegalStateException.class;
     private static final int[] NO_FOLLOWERS = {-1, 4, 5, Integer.MIN_VALUE, Integer.MAX_VALUE};
 
     public static void main(String[] args) {
@@ -160,9 +158,9 @@ public final class FollowersTest {
     private static void promise16Throws() {
         StreetEditions x = new StreetEditions();
         x.sleep(1);
-        Due.refuses(x, NOT_NOW, "refresh(1) asleep", () -> x.refresh(1));
+        Due.notNow(x, "refresh(1) asleep", () -> x.refresh(1));
         for (int f : NO_FOLLOWERS) {
-            Due.refuses(x, NO_SUCH, "refresh(" + f + ")", () -> x.refresh(f));
+            Due.noSuch(x, "refresh(" + f + ")", () -> x.refresh(f));
         }
     }
 
@@ -194,26 +192,26 @@ public final class FollowersTest {
         Due.is("a notice stays", x.attention(0), 3);
         Due.is("sleep is undoable", x.savedStates(), 2);
         Due.is("sleep(3)", x.sleep(3), 2);
-        Due.refuses(x, NOT_NOW, "sleep(3) again", () -> x.sleep(3));
+        Due.notNow(x, "sleep(3) again", () -> x.sleep(3));
         Due.is("sleep(1)", x.sleep(1), 3);
         Due.is("sleep(2)", x.sleep(2), 4);
         for (int f : NO_FOLLOWERS) {
-            Due.refuses(x, NO_SUCH, "sleep(" + f + ")", () -> x.sleep(f));
+            Due.noSuch(x, "sleep(" + f + ")", () -> x.sleep(f));
         }
     }
 
     private static void promise19Wake() {
         StreetEditions x = new StreetEditions();
-        Due.refuses(x, NOT_NOW, "wake(0) awake", () -> x.wake(0));
+        Due.notNow(x, "wake(0) awake", () -> x.wake(0));
         Do.texts(x, "s0;+1;p;s1");
         Due.is("wake(0)", x.wake(0), 1);
         Due.is("no notice of what was missed", x.attention(0), 0);
         Due.is("wake is undoable", x.savedStates(), 2);
         Due.is("wake(1)", x.wake(1), 0);
         Due.is("the notice from before", x.attention(1), 1);
-        Due.refuses(x, NOT_NOW, "wake(1) again", () -> x.wake(1));
+        Due.notNow(x, "wake(1) again", () -> x.wake(1));
         for (int f : NO_FOLLOWERS) {
-            Due.refuses(x, NO_SUCH, "wake(" + f + ")", () -> x.wake(f));
+            Due.noSuch(x, "wake(" + f + ")", () -> x.wake(f));
         }
     }
 
@@ -237,7 +235,7 @@ public final class FollowersTest {
         x.wake(0);
         refreshes(x, 0, 2, 2, 3 + 4);
         for (int f : NO_FOLLOWERS) {
-            Due.refuses(x, NO_SUCH, "throwAway(" + f + ")", () -> x.throwAway(f));
+            Due.noSuch(x, "throwAway(" + f + ")", () -> x.throwAway(f));
         }
     }
 
@@ -253,8 +251,8 @@ public final class FollowersTest {
         Due.is("has(1, 5)", x.has(1, 5), false);
         Due.is("has(0, 0) without a list", x.has(0, 0), false);
         for (int s : new int[] {-1, 30, 32, Integer.MIN_VALUE, Integer.MAX_VALUE}) {
-            Due.refuses(x, NO_SUCH, "has(1, " + s + ")", () -> x.has(1, s));
-            Due.refuses(x, NO_SUCH, "has(4, " + s + ")", () -> x.has(4, s));
+            Due.noSuch(x, "has(1, " + s + ")", () -> x.has(1, s));
+            Due.noSuch(x, "has(4, " + s + ")", () -> x.has(4, s));
         }
         Due.is("attention(1)", x.attention(1), 3);
         Due.is("attention(0)", x.attention(0), 1);
@@ -283,12 +281,12 @@ public final class FollowersTest {
     private static void noSuchFollower() {
         StreetEditions x = new StreetEditions();
         for (int f : NO_FOLLOWERS) {
-            Due.refuses(x, NO_SUCH, "editionOf(" + f + ")", () -> x.editionOf(f));
-            Due.refuses(x, NO_SUCH, "streets(" + f + ")", () -> x.streets(f));
-            Due.refuses(x, NO_SUCH, "has(" + f + ", 0)", () -> x.has(f, 0));
-            Due.refuses(x, NO_SUCH, "isRight(" + f + ")", () -> x.isRight(f));
-            Due.refuses(x, NO_SUCH, "attention(" + f + ")", () -> x.attention(f));
-            Due.refuses(x, NO_SUCH, "costs(" + f + ")", () -> x.costs(f));
+            Due.noSuch(x, "editionOf(" + f + ")", () -> x.editionOf(f));
+            Due.noSuch(x, "streets(" + f + ")", () -> x.streets(f));
+            Due.noSuch(x, "has(" + f + ", 0)", () -> x.has(f, 0));
+            Due.noSuch(x, "isRight(" + f + ")", () -> x.isRight(f));
+            Due.noSuch(x, "attention(" + f + ")", () -> x.attention(f));
+            Due.noSuch(x, "costs(" + f + ")", () -> x.costs(f));
         }
     }
 }

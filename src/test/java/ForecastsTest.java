@@ -1,8 +1,6 @@
 /** Promises 27 to 30: the forecasts. */
 public final class ForecastsTest {
 
-    private static final Class<IndexOutOfBoundsException> NO_SUCH = IndexOutOfBoundsException.class;
-
     public static void main(String[] args) {
         promises27To29();
         promise27OfOneAsleep();
@@ -77,9 +75,9 @@ public final class ForecastsTest {
     private static void noSuchFollower() {
         StreetEditions x = new StreetEditions();
         for (int f : new int[] {-1, 4, Integer.MIN_VALUE, Integer.MAX_VALUE}) {
-            Due.refuses(x, NO_SUCH, "answer(" + f + ")", () -> x.answer(f));
-            Due.refuses(x, NO_SUCH, "costToCome(" + f + ")", () -> x.costToCome(f));
-            Due.refuses(x, NO_SUCH, "wrong(" + f + ")", () -> x.wrong(f));
+            Due.noSuch(x, "answer(" + f + ")", () -> x.answer(f));
+            Due.noSuch(x, "costToCome(" + f + ")", () -> x.costToCome(f));
+            Due.noSuch(x, "wrong(" + f + ")", () -> x.wrong(f));
         }
     }
 }

@@ -1,9 +1,6 @@
 /** Promises 31 to 34: the order text. */
 public final class OrderTextTest {
 
-    private static final Class<IllegalStateException> NOT_NOW = IllegalStateException.class;
-    private static final Class<IllegalArgumentException> BAD = IllegalArgumentException.class;
-
     public static void main(String[] args) {
         promise31Append();
         promise32ClearText();
@@ -24,14 +21,14 @@ public final class OrderTextTest {
         Due.is("append is not undoable", x.savedStates(), 0);
         int[] outside = {32, 127, 0, -1, 128, 65536 + 40, Integer.MIN_VALUE, Integer.MAX_VALUE};
         for (int code : outside) {
-            Due.refuses(x, BAD, "append(" + code + ")", () -> x.append(code));
+            Due.bad(x, "append(" + code + ")", () -> x.append(code));
         }
         for (int i = 3; i <= 60; i++) {
             Due.is("append to " + i, x.append('p'), i);
         }
-        Due.refuses(x, NOT_NOW, "append to 61", () -> x.append('p'));
+        Due.notNow(x, "append to 61", () -> x.append('p'));
         for (int code : outside) {
-            Due.refuses(x, BAD, "append(" + code + ") to 61", () -> x.append(code));
+            Due.bad(x, "append(" + code + ") to 61", () -> x.append(code));
         }
         Due.is("length after all that", x.clearText(), 60);
     }
@@ -166,12 +163,12 @@ public final class OrderTextTest {
         for (String text : texts) {
             StreetEditions x = new StreetEditions();
             Do.type(x, text);
-            Due.refuses(x, BAD, "run of " + text, x::run);
+            Due.bad(x, "run of " + text, x::run);
             Due.is("the buffer stays after " + text, x.clearText(), text.length());
         }
         StreetEditions x = new StreetEditions();
         Do.type(x, "+1;p;n");
-        Due.refuses(x, BAD, "run of +1;p;n", x::run);
+        Due.bad(x, "run of +1;p;n", x::run);
         x.append('1');
         x.append('2');
         Due.is("run of the text, completed", x.run(), 3);
@@ -201,6 +198,6 @@ public final class OrderTextTest {
         Due.is("draft then", x.draft(), 1);
         Do.type(x, "p;p;p;p;p;p;p;p;p;p;p;p;p;p;p;p;p;p;p;p;p;p;p;p;p;p;p;p;p;p;");
         Due.is("firstError of 60 that are not complete", x.firstError(), 60);
-        Due.refuses(x, BAD, "run of 60 that are not complete", x::run);
+        Due.bad(x, "run of 60 that are not complete", x::run);
     }
 }

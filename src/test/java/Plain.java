@@ -471,7 +471,8 @@ final class Plain {
             values.addAll(List.of(from(d), cost(d)));
         }
         for (int f = 0; f < 4; f++) {
-            values.addAll(List.of(editionOf(f), streets(f), attention(f), costs(f), answer(f), costToCome(f), wrong(f)));
+            values.addAll(List.of(editionOf(f), streets(f), attention(f), costs(f), answer(f), costToCome(f),
+                    wrong(f)));
         }
         for (int s = 0; s < 30; s++) {
             values.add(where(s));

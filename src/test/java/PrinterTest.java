@@ -1,10 +1,6 @@
 /** Promises 1 to 15: the printer. */
 public final class PrinterTest {
 
-    private static final Class<IndexOutOfBoundsException> NO_SUCH = IndexOutOfBoundsException.class;
-    private static final Class<IllegalStateException> NOT_NOW = IllegalStateException.class;
-    private static final Class<IllegalArgumentException> BAD = IllegalArgumentException.class;
-
     public static void main(String[] args) {
         promise1NewObject();
         promise2Add();
@@ -55,11 +51,11 @@ public final class PrinterTest {
         Due.is("add leaves the published list", x.published(), 0);
         Due.is("add is undoable", x.savedStates(), 2);
         for (int street : new int[] {-1, 30, 31, 32, 61, Integer.MIN_VALUE, Integer.MAX_VALUE}) {
-            Due.refuses(x, NO_SUCH, "add(" + street + ")", () -> x.add(street));
+            Due.noSuch(x, "add(" + street + ")", () -> x.add(street));
         }
-        Due.refuses(x, NOT_NOW, "add(29) again", () -> x.add(29));
+        Due.notNow(x, "add(29) again", () -> x.add(29));
         x.publish();
-        Due.refuses(x, NOT_NOW, "add(0) after publish", () -> x.add(0));
+        Due.notNow(x, "add(0) after publish", () -> x.add(0));
         x.crossOut(0);
         Due.is("add(0) after crossOut", x.add(0), 2);
         for (int street = 1; street < 29; street++) {
@@ -69,7 +65,7 @@ public final class PrinterTest {
 
     private static void promise3CrossOut() {
         StreetEditions x = new StreetEditions();
-        Due.refuses(x, NOT_NOW, "crossOut(5) of an empty draft", () -> x.crossOut(5));
+        Due.notNow(x, "crossOut(5) of an empty draft", () -> x.crossOut(5));
         x.add(5);
         x.add(29);
         x.publish();
@@ -77,26 +73,26 @@ public final class PrinterTest {
         Due.is("where(29)", x.where(29), 2);
         Due.is("where(5)", x.where(5), 3);
         Due.is("crossOut is undoable", x.savedStates(), 4);
-        Due.refuses(x, NOT_NOW, "crossOut(29) again", () -> x.crossOut(29));
+        Due.notNow(x, "crossOut(29) again", () -> x.crossOut(29));
         for (int street : new int[] {-1, 30, 37, Integer.MIN_VALUE, Integer.MAX_VALUE}) {
-            Due.refuses(x, NO_SUCH, "crossOut(" + street + ")", () -> x.crossOut(street));
+            Due.noSuch(x, "crossOut(" + street + ")", () -> x.crossOut(street));
         }
         Due.is("crossOut(5)", x.crossOut(5), 0);
     }
 
     private static void promise4Publish() {
         StreetEditions x = new StreetEditions();
-        Due.refuses(x, NOT_NOW, "publish of nothing new", x::publish);
+        Due.notNow(x, "publish of nothing new", x::publish);
         x.add(7);
         Due.is("publish", x.publish(), 1);
         Due.is("published after it", x.published(), 1);
         Due.is("draft after it", x.draft(), 1);
         Due.is("where(7) after it", x.where(7), 3);
         Due.is("publish is undoable", x.savedStates(), 2);
-        Due.refuses(x, NOT_NOW, "publish again", x::publish);
+        Due.notNow(x, "publish again", x::publish);
         x.add(8);
         x.crossOut(8);
-        Due.refuses(x, NOT_NOW, "publish of a draft that came back", x::publish);
+        Due.notNow(x, "publish of a draft that came back", x::publish);
         x.crossOut(7);
         Due.is("publish of an empty draft", x.publish(), 2);
         Due.is("published then", x.published(), 0);
@@ -144,7 +140,7 @@ public final class PrinterTest {
         Do.texts(x, "+1;p;+2");
         Do.texts(x, "r0;r1;r3");
         for (int edition : new int[] {-1, 16, 17, 1, Integer.MIN_VALUE, Integer.MAX_VALUE}) {
-            Due.refuses(x, BAD, "renumber(" + edition + ")", () -> x.renumber(edition));
+            Due.bad(x, "renumber(" + edition + ")", () -> x.renumber(edition));
         }
         int saved = x.savedStates();
         Due.is("renumber(15)", x.renumber(15), 1);
@@ -166,7 +162,7 @@ public final class PrinterTest {
     private static void promise6SetKeep() {
         StreetEditions x = new StreetEditions();
         for (int count : new int[] {0, 7, -1, Integer.MIN_VALUE, Integer.MAX_VALUE}) {
-            Due.refuses(x, BAD, "setKeep(" + count + ")", () -> x.setKeep(count));
+            Due.bad(x, "setKeep(" + count + ")", () -> x.setKeep(count));
         }
         Due.is("setKeep(6) of nothing", x.setKeep(6), 0);
         Due.is("setKeep is undoable", x.savedStates(), 1);
@@ -213,22 +209,22 @@ public final class PrinterTest {
         Due.is("where(17)", x.where(17), 1);
         Due.is("where(1)", x.where(1), 0);
         for (int street : new int[] {-1, 30, 32, Integer.MIN_VALUE, Integer.MAX_VALUE}) {
-            Due.refuses(x, NO_SUCH, "where(" + street + ")", () -> x.where(street));
+            Due.noSuch(x, "where(" + street + ")", () -> x.where(street));
         }
     }
 
     private static void promise13And14Differences() {
         StreetEditions x = new StreetEditions();
-        Due.refuses(x, NO_SUCH, "from(0) of none", () -> x.from(0));
-        Due.refuses(x, NO_SUCH, "cost(0) of none", () -> x.cost(0));
+        Due.noSuch(x, "from(0) of none", () -> x.from(0));
+        Due.noSuch(x, "cost(0) of none", () -> x.cost(0));
         Do.texts(x, "n9;+1;+2;p;-1;+3;+4;p");
         Due.is("from(0)", x.from(0), 9);
         Due.is("from(1)", x.from(1), 10);
         Due.is("cost(0)", x.cost(0), 3);
         Due.is("cost(1)", x.cost(1), 4);
         for (int difference : new int[] {-1, 2, 5, 6, Integer.MIN_VALUE, Integer.MAX_VALUE}) {
-            Due.refuses(x, NO_SUCH, "from(" + difference + ")", () -> x.from(difference));
-            Due.refuses(x, NO_SUCH, "cost(" + difference + ")", () -> x.cost(difference));
+            Due.noSuch(x, "from(" + difference + ")", () -> x.from(difference));
+            Due.noSuch(x, "cost(" + difference + ")", () -> x.cost(difference));
         }
     }
 
@@ -245,10 +241,10 @@ public final class PrinterTest {
         Due.is("compare(8, 0)", x.compare(8, 0), -1);
         Due.is("compare(0, 8)", x.compare(0, 8), -1);
         Due.is("compare(0, 15)", x.compare(0, 15), 1);
-        Due.refuses(x, BAD, "compare(-1, 0)", () -> x.compare(-1, 0));
-        Due.refuses(x, BAD, "compare(16, 0)", () -> x.compare(16, 0));
-        Due.refuses(x, BAD, "compare(0, -1)", () -> x.compare(0, -1));
-        Due.refuses(x, BAD, "compare(0, 16)", () -> x.compare(0, 16));
-        Due.refuses(x, BAD, "compare(16, 16)", () -> x.compare(16, 16));
+        Due.bad(x, "compare(-1, 0)", () -> x.compare(-1, 0));
+        Due.bad(x, "compare(16, 0)", () -> x.compare(16, 0));
+        Due.bad(x, "compare(0, -1)", () -> x.compare(0, -1));
+        Due.bad(x, "compare(0, 16)", () -> x.compare(0, 16));
+        Due.bad(x, "compare(16, 16)", () -> x.compare(16, 16));
     }
 }

@@ -1,8 +1,6 @@
 /** Promises 35 to 37: undo and the digest. */
 public final class UndoTest {
 
-    private static final Class<IllegalStateException> NOT_NOW = IllegalStateException.class;
-
     public static void main(String[] args) {
         promise35And36EachUndoableCall();
         promise35And36SixStates();
@@ -71,7 +69,7 @@ public final class UndoTest {
             Due.is("savedStates then", x.savedStates(), i - 3);
             Due.is("the state then", Seen.state(x), before[i]);
         }
-        Due.refuses(x, NOT_NOW, "undo of a discarded state", x::undo);
+        Due.notNow(x, "undo of a discarded state", x::undo);
         x.publish();
         x.add(20);
         Due.is("undo of a later call", x.undo(), 1);
@@ -117,10 +115,10 @@ public final class UndoTest {
 
     private static void promise35Throws() {
         StreetEditions x = new StreetEditions();
-        Due.refuses(x, NOT_NOW, "undo of nothing", x::undo);
+        Due.notNow(x, "undo of nothing", x::undo);
         x.add(1);
         x.undo();
-        Due.refuses(x, NOT_NOW, "undo after undo", x::undo);
+        Due.notNow(x, "undo after undo", x::undo);
     }
 
     private static void promise36CallsThatSaveNothing() {
