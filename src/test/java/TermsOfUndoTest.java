@@ -248,6 +248,12 @@ public final class TermsOfUndoTest {
             changesNothing("sleep(" + number + ")", Do::busy, noSuch, x -> x.sleep(number));
             changesNothing("wake(" + number + ")", Do::busy, noSuch, x -> x.wake(number));
             changesNothing("throwAway(" + number + ")", Do::busy, noSuch, x -> x.throwAway(number));
+            changesNothing("editionOf(" + number + ")", Do::busy, noSuch, x -> x.editionOf(number));
+            changesNothing("streets(" + number + ")", Do::busy, noSuch, x -> x.streets(number));
+            changesNothing("has(" + number + ", 0)", Do::busy, noSuch, x -> x.has(number, 0) ? 1 : 0);
+            changesNothing("isRight(" + number + ")", Do::busy, noSuch, x -> x.isRight(number) ? 1 : 0);
+            changesNothing("attention(" + number + ")", Do::busy, noSuch, x -> x.attention(number));
+            changesNothing("costs(" + number + ")", Do::busy, noSuch, x -> x.costs(number));
             changesNothing("answer(" + number + ")", Do::busy, noSuch, x -> x.answer(number));
             changesNothing("costToCome(" + number + ")", Do::busy, noSuch, x -> x.costToCome(number));
             changesNothing("wrong(" + number + ")", Do::busy, noSuch, x -> x.wrong(number));
